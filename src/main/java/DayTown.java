@@ -326,7 +326,7 @@ public final class DayTown {
     private static final class Book {
         private final int[] lived = new int[PERSONS];
         private final int[] kinds = new int[FACTS];
-        private final int[] madeOn = new int[FACTS];
+        private final int[] dates = new int[FACTS];
         private final int[] ones = new int[FACTS];
         private final int[] things = new int[FACTS];
         private final int[] days = new int[FACTS];
@@ -350,7 +350,7 @@ public final class DayTown {
                 return NONE;
             }
             put(kinds, facts, kind);
-            put(madeOn, facts, made);
+            put(dates, facts, made);
             put(ones, facts, one);
             put(things, facts, thing);
             put(days, facts, day);
@@ -378,7 +378,7 @@ public final class DayTown {
         }
 
         int madeOn(int fact) {
-            return at(madeOn, fact);
+            return at(dates, fact);
         }
 
         /** The giver of a LEAF, or the one who says what it saw. */
@@ -784,9 +784,10 @@ public final class DayTown {
             ringSize = 0;
             ringLeast = 0;
             ringMet = 0;
-            for (start = 0; start < PERSONS; start++) {
-                put(path, 0, start);
-                walk(1, 1 << start, Integer.MAX_VALUE);
+            for (int person = 0; person < PERSONS; person++) {
+                start = person;
+                put(path, 0, person);
+                walk(1, 1 << person, Integer.MAX_VALUE);
             }
             return ringSize > 0;
         }
@@ -958,7 +959,7 @@ public final class DayTown {
         }
 
         int readText(int[] text, int length, Law into) {
-            lexer.start(text, length);
+            lexer.open(text, length);
             law = into;
             law.clear();
             height = 0;
@@ -968,7 +969,7 @@ public final class DayTown {
             fault = 0;
             // A token takes a byte at least.
             for (int turn = 0; turn <= length && fault == 0; turn++) {
-                lexer.next();
+                lexer.cutToken();
                 if (lexer.kind == END && fits()) {
                     break;
                 }
@@ -1119,20 +1120,20 @@ public final class DayTown {
     private static final class Lexer {
         private static final int MOST_DIGITS = 4;
 
+        int start = 0;
+        int kind = END;
+        int value = 0;
         private int[] text = new int[0];
         private int length = 0;
         private int next = 0;
-        private int start = 0;
-        private int kind = END;
-        private int value = 0;
 
-        void start(int[] bytes, int count) {
+        void open(int[] bytes, int count) {
             text = bytes;
             length = Math.min(count, bytes.length);
             next = 0;
         }
 
-        void next() {
+        void cutToken() {
             while (next < length && isBlank(byteAt(next))) {
                 next++;
             }
