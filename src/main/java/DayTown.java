@@ -461,7 +461,6 @@ public final class DayTown {
             markForged();
             for (int place = 0; place < size; place++) {
                 int fact = at(order, place);
-                put(rules, fact, NONE);
                 int reason = whyVoid(place, fact, law);
                 put(reasons, fact, reason);
                 put(gifts, place, reason == 0 ? leafOf(fact) : NONE);
@@ -800,17 +799,11 @@ public final class DayTown {
                 offer(size, Math.min(least, closing));
             }
             for (int next = start + 1; next < PERSONS && size < PERSONS; next++) {
-                int sum = at(sums, last * PERSONS + next);
-                if (sum > 0 && (used >> next & 1) == 0) {
-                    step(size, next, used | 1 << next, Math.min(least, sum));
+                int sum = Math.min(least, at(sums, last * PERSONS + next));
+                if (sum > 0 && (used >> next & 1) == 0 && canWin(sum)) {
+                    put(path, size, next);
+                    walk(size + 1, used | 1 << next, sum);
                 }
-            }
-        }
-
-        private void step(int size, int next, int used, int least) {
-            if (canWin(least)) {
-                put(path, size, next);
-                walk(size + 1, used, least);
             }
         }
 

@@ -1,6 +1,7 @@
 /** Compares answers with those that are due, prints the wrong ones, and ends the program by them. */
 final class Check {
     private final String name;
+    private String sentence = "";
     private int wrong = 0;
     private int calls = 0;
 
@@ -8,12 +9,28 @@ final class Check {
         this.name = name;
     }
 
+    /** The sentence of the document that the answers to come are about. */
+    void sentence(String words) {
+        sentence = "<" + words + "> ";
+    }
+
     void due(String call, int got, int want) {
         calls++;
         if (got != want) {
             wrong++;
-            System.out.println(name + ": " + call + " answered " + got + ", due is " + want);
+            System.out.println(name + ": " + sentence + call + " answered " + got + ", due is " + want);
         }
+    }
+
+    void none(String call, int got) {
+        due(call, got, DayTown.NONE);
+    }
+
+    /** The call that answered was refused, and left the town with as many of each as ahead. */
+    void refused(String call, int got, DayTown town, int persons, int facts) {
+        none(call, got);
+        due("persons behind " + call, town.count(0), persons);
+        due("facts behind " + call, town.count(1), facts);
     }
 
     void end() {
